@@ -704,40 +704,46 @@ public final class MovingBoxes {
 
         private void tellNode(Term term, int node, int meanings, int level) {
             int kind = term.kind[node];
-            char name = term.name[node];
+            // An INPUT's own letter means nothing in its tail, whatever it meant outside.
+            int inside = kind == INPUT ? bind(term.name[node], NONE, meanings) : meanings;
+            putHead(term, node, inside);
+            if (level > MOST_LEVELS) {
+                isTooLong = true;
+            }
+            if (kind == MESSAGE || isTooLong) {
+                return;
+            }
+            int first = pieces;
+            int from = length;
+            int to = term.after(node);
+            for (int part = node + 1; part < to && !isTooLong; part = term.after(part)) {
+                int start = length;
+                tellNode(term, part, inside, level + 1);
+                addPiece(first, start);
+            }
+            join(first, from, kind != PLACE);
             if (kind == PLACE) {
-                putName(name, meanings);
-                put('[');
-                tellParts(term, node, meanings, level, false);
                 put(']');
+            }
+        }
+
+        /** All that stands before the parts of a node. */
+        private void putHead(Term term, int node, int meanings) {
+            int kind = term.kind[node];
+            if (kind == PLACE) {
+                putName(term.name[node], meanings);
+                put('[');
             } else if (kind == MESSAGE) {
                 put('\'');
-                putName(name, meanings);
+                putName(term.name[node], meanings);
             } else {
-                int inTail = kind == INPUT ? bind(name, NONE, meanings) : meanings;
                 if (term.isReplica[node]) {
                     put('!');
                 }
                 put(SIGNS.charAt(kind));
-                putName(name, inTail);
+                putName(term.name[node], meanings);
                 put('.');
-                tellParts(term, node, inTail, level, true);
             }
-        }
-
-        private void tellParts(Term term, int node, int meanings, int level, boolean isTail) {
-            int first = pieces;
-            int from = length;
-            if (level > MOST_LEVELS) {
-                isTooLong = true;
-            }
-            int to = term.after(node);
-            for (int part = node + 1; part < to && !isTooLong; part = term.after(part)) {
-                int start = length;
-                tellNode(term, part, meanings, level + 1);
-                addPiece(first, start);
-            }
-            join(first, from, isTail);
         }
 
         private void putName(char letter, int meanings) {
