@@ -1,15 +1,22 @@
+import java.util.Collections;
 import java.util.concurrent.Callable;
 
 /** Counts answers that are not as due, and names the exceptions that calls throw. */
 final class Check {
     private int wrong;
     private int asked;
+    private String about = "";
+
+    /** The answers from here on are about this sentence of the document. */
+    void about(String sentence) {
+        about = sentence + " -- ";
+    }
 
     void due(String what, Object got, Object want) {
         asked++;
         if (!want.equals(got)) {
             wrong++;
-            System.out.println(what + ": answered " + got + ", due is " + want);
+            System.out.println(about + what + ": answered " + got + ", due is " + want);
         }
     }
 
@@ -28,6 +35,11 @@ final class Check {
             int n = Math.min(8, text.length() - at);
             boxes.write(eight(text.substring(at, at + n)), n);
         }
+    }
+
+    /** So many parts of one kind, with | between. */
+    static String times(int many, String part) {
+        return String.join("|", Collections.nCopies(many, part));
     }
 
     static long eight(String characters) {

@@ -1,4 +1,5 @@
 import java.util.ArrayList;
+import java.util.Arrays;
 import java.util.Collections;
 import java.util.LinkedHashMap;
 import java.util.List;
@@ -226,8 +227,13 @@ final class Model {
             return (int) all().stream().filter(t -> signs.indexOf(t.part.sign) >= 0).count();
         }
 
+        /** Places, guards, messages and characters of the text, by how much each is over its limit. */
+        int[] over() {
+            return new int[] {count("[") - 20, count("><^?") - 40, count("'") - 30, root.text().length() - 240};
+        }
+
         boolean tooMuch() {
-            return count("[") > 20 || count("><^?") > 40 || count("'") > 30 || root.text().length() > 240;
+            return Arrays.stream(over()).anyMatch(over -> over > 0);
         }
 
         void run(List<Part> parts, Thing place) {
@@ -270,7 +276,7 @@ final class Model {
             }
         }
 
-        /** What comes of a redex, or null when it would be too much. */
+        /** What comes of a redex, be it too much or not. */
         State taken(int[] redex) {
             State after = copy();
             Thing guard = after.numbered(redex[1]);
@@ -296,7 +302,7 @@ final class Model {
                     tail = Part.withAll(tail, guard.part.name, other.part.name);
             }
             after.run(tail, q);
-            return after.tooMuch() ? null : after;
+            return after;
         }
 
         boolean shows(int outer, int inner) {
@@ -309,6 +315,9 @@ final class Model {
     private final String[] kept = new String[3];
     private final int[] explored = {0, 0, 0, -1, 0};
     private int steps;
+    private static final int[] NOTHING = {-1, -1, -1, -1};
+    /** How much the state that the latest call tried last was over each limit. */
+    private int[] tried = NOTHING;
     private Map<String, Integer> since = new LinkedHashMap<>();
 
     Object write(long eight, int n) {
@@ -389,6 +398,7 @@ final class Model {
     }
 
     Object take(int k) {
+        tried = NOTHING;
         List<int[]> all = state.redexes();
         if (k < 0 || k >= all.size()) {
             return IOOBE;
@@ -398,7 +408,8 @@ final class Model {
 
     private boolean step(int[] redex) {
         State after = state.taken(redex);
-        if (after == null) {
+        tried = after.over();
+        if (after.tooMuch()) {
             return false;
         }
         state = after;
@@ -407,7 +418,12 @@ final class Model {
         return true;
     }
 
+    int[] tried() {
+        return tried;
+    }
+
     Object fair(int n) {
+        tried = NOTHING;
         if (n < 1 || n > 30) {
             return IAE;
         }
@@ -484,7 +500,7 @@ final class Model {
             List<int[]> redexes = found.get(at).redexes();
             for (int[] redex : redexes) {
                 State after = found.get(at).taken(redex);
-                if (after != null && !texts.contains(after.root.text())) {
+                if (!after.tooMuch() && !texts.contains(after.root.text())) {
                     found.add(after);
                     texts.add(after.root.text());
                     distances.add(distances.get(at) + 1);

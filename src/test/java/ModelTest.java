@@ -1,6 +1,7 @@
 import java.util.Map;
 import java.util.Random;
 import java.util.TreeMap;
+import java.util.stream.IntStream;
 
 /** Many runs of random calls (always the same ones), each answer held against the model's. */
 public final class ModelTest {
@@ -32,7 +33,9 @@ public final class ModelTest {
             "read answers", "read throws.IllegalArgumentException", "read throws.IllegalStateException",
             "read throws.UnsupportedOperationException", "take answers", "take throws.UnsupportedOperationException",
             "fair answers", "fair throws.UnsupportedOperationException", "explore all", "explore cut",
-            "explore shape", "equal true", "equal false", "shows true", "shows false"}) {
+            "explore shape", "equal true", "equal false", "shows true", "shows false",
+            "20 places taken", "21 places refused", "40 guards taken", "41 guards refused",
+            "30 messages taken", "31 messages refused", "240 characters taken", "241 characters refused"}) {
             check.due("the runs have: " + event, seen.getOrDefault(event, 0) >= 5, true);
         }
         check.end();
@@ -54,6 +57,38 @@ public final class ModelTest {
             }
         }
         askAll();
+        growToTheLimits();
+    }
+
+    /** Up to the limits by fair steps, and then all that can be taken there. */
+    private void growToTheLimits() {
+        due("erase()", boxes.erase(), model.erase());
+        readText(Texts.growing(random));
+        for (int times = 0; times < 4; times++) {
+            int n = 1 + random.nextInt(30);
+            due("fair(" + n + ")", Check.answer(() -> boxes.fair(n)), model.fair(n));
+            noteLimits();
+        }
+        for (int times = 0; times < 8; times++) {
+            take();
+            noteLimits();
+        }
+        askAll();
+        explore();
+    }
+
+    /** Whether the latest step was at a limit, or over it by one and by nothing else. */
+    private void noteLimits() {
+        String[] limits = {"20 places", "21 places", "40 guards", "41 guards", "30 messages", "31 messages",
+            "240 characters", "241 characters"};
+        int[] tried = model.tried();
+        for (int i = 0; i < 4; i++) {
+            int other = i;
+            boolean alone = IntStream.range(0, 4).allMatch(j -> j == other || tried[j] <= 0);
+            if (alone && (tried[i] == 0 || tried[i] == 1)) {
+                seen.merge(limits[2 * i + tried[i]] + (tried[i] == 0 ? " taken" : " refused"), 1, Integer::sum);
+            }
+        }
     }
 
     private Object due(String call, Object got, Object want) {
@@ -74,16 +109,19 @@ public final class ModelTest {
     private void writeAndRead() {
         due("erase()", boxes.erase(), model.erase());
         int sort = random.nextInt(8);
-        String text = sort == 0 ? Texts.crowded(random) : sort < 4 ? Texts.any(random) : Texts.lively(random);
+        readText(sort == 0 ? Texts.crowded(random) : sort < 4 ? Texts.any(random) : Texts.lively(random));
+        if (random.nextInt(3) == 0) {
+            askAll();
+        }
+    }
+
+    private void readText(String text) {
         for (int at = 0; at < text.length(); at += 8) {
             int n = Math.min(8, text.length() - at);
             write(Check.eight(text.substring(at, at + n)), n);
         }
         calls.append(text).append("; ");
         note("read", due("read()", Check.answer(boxes::read), model.read()));
-        if (random.nextInt(3) == 0) {
-            askAll();
-        }
     }
 
     private void write(long eight, int n) {

@@ -63,6 +63,30 @@ final class Texts {
         return text.toString();
     }
 
+    // Parts that a pump makes again and again; in them N stands for any name, x for the pump's letter.
+    private static final String[] PUMPED = {
+        "N[0]", "x['N]", "N[x[0]]", "'x", "'N", ">N.0", "!<x.0", "^x.0", ">N.>N.>N.0", "<N.('x|'N)", "?y.y[0]",
+        "N[>x.0]", "!>N.N['x]", "N[N[<N.0]]", "?x.'x", "!?y.(y[0]|'y)"};
+    private static final String[] BESIDE = {
+        "0", "'N", "N[0]", ">N.0", "!>N.0", "!>N.!>N.0", "^N.N[0]", "!^N.'N", "N[!>N.'N]", "N[N[!<N.'N]]", "?x.(x[0]|'x)", "(0)"};
+
+    /** A replica that takes a message and gives it back with more beside it, so that all limits come near. */
+    static String growing(Random random) {
+        String names = "abcdef".substring(0, 1 + random.nextInt(4));
+        StringBuilder text = new StringBuilder("!?x.('x");
+        for (int many = 1 + random.nextInt(3); many > 0; many--) {
+            text.append('|').append(filled(random, pick(random, PUMPED), names));
+        }
+        text.append(")|'").append(names.charAt(0));
+        for (int tries = random.nextInt(8); tries > 0; tries--) {
+            String more = filled(random, pick(random, BESIDE), names);
+            if (text.length() + 1 + more.length() <= 120) {
+                text.append('|').append(more);
+            }
+        }
+        return text.toString();
+    }
+
     private static String pick(Random random, String[] from) {
         return from[random.nextInt(from.length)];
     }
